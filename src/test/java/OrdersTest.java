@@ -106,6 +106,20 @@ public final class OrdersTest {
         fault("le ast 5", 0);
         fault("least 5 5", 8);
         fault("least plain", 6);
+        fault("rankz 5", 0);
+        fault("least", 5);
+        fault("night", 5);
+        fault("night;back 5", 5);
+        fault("night 5;back 5", 7);
+        fault("night 5 to;back 5", 10);
+        fault("rank;back 5", 4);
+        fault("rank plain;back 5", 10);
+        fault("pay;back 5", 3);
+        fault("pay plain;back 5", 9);
+        fault("repeat;back 5", 6);
+        fault("least;back 5", 5);
+        fault("back;back 5", 4);
+        fault("least 100;back 5", 6);
     }
 
     private static void lines() {

@@ -8,6 +8,7 @@ public final class ShiftsTest {
         set();
         waits();
         fewest();
+        fewestIsAll();
         fewestOfSeveral();
         door();
         clear();
@@ -69,9 +70,13 @@ public final class ShiftsTest {
         x.load(1, 15, 100);
         due("shift one 6 and 7, then what waits", x.waits(3, 0, 0), 140);
         due("it goes on over the shifts", x.waits(3, 1, 0), 60 + 80 - 50);
-        x.load(0, 23, 300);
+        x.load(2, 16, 7);
+        due("hour 16 is of three", x.waits(15, 15, 1), 0);
+        x.load(2, 16, 777);
+        due("hour 16 is not of two", x.waits(15, 15, 1), 767);
+        x.load(0, 23, 800);
         x.load(1, 0, 1);
-        due("nothing from day to day", x.waits(15, 15, 0), 300);
+        due("nothing from day to day", x.waits(15, 15, 0), 800);
         for (int day = 0; day < 3; day++) {
             for (int hour = 0; hour < 24; hour++) {
                 x.load(day, hour, 999);
@@ -105,6 +110,19 @@ public final class ShiftsTest {
         due("with a limit of 1: one", x.fewest(1), 2);
         x.set(0, 20);
         due("with a rate of 20", x.fewest(0), 1 + 1 + 8);
+    }
+
+    private static void fewestIsAll() {
+        WireOfLand x = new WireOfLand();
+        for (int hour = 0; hour < 24; hour++) {
+            x.load(1, hour, 150);
+        }
+        due("all", x.fewest(0), 45);
+        for (int what = 1; what <= 3; what++) {
+            due("all of shift " + what, x.fewest(what), 15);
+        }
+        x.load(1, 0, 151);
+        due("none", x.fewest(0), NONE);
     }
 
     private static void fewestOfSeveral() {

@@ -42,6 +42,7 @@ public final class WordsTest {
         due("beyond z", word(x, 0, "{a"), OUTSIDE);
         due("a great letter", word(x, 0, "aAa"), OUTSIDE);
         due("byte 225", word(x, 0, "a" + (char) 225), OUTSIDE);
+        due("9 letters that would be some", x.word(0, Check.pack("zzzzzzzz"), 9), OUTSIDE);
         due("none there", x.count(10), 0);
         due("what is behind n does not count", x.word(0, Check.pack("a!"), 1), 1);
         due("8 letters", word(x, 15, "zzzzzzzz"), 1);
@@ -106,7 +107,7 @@ public final class WordsTest {
         word(x, 3, "i");
         word(x, 5, "s");
         word(x, 0, "zz");
-        int[] want = {14, 3, 9, 5, 0, NONE, NONE};
+        int[] want = {14, 3, 9, 5, 0, NONE};
         for (int k = 0; k < want.length; k++) {
             due("likely " + k, x.likely(Check.pack("e"), 1, k), want[k]);
         }
@@ -165,8 +166,13 @@ public final class WordsTest {
         x.row(7);
         due("row -1", x.lead(-1), UNKNOWN);
         due("none is wrong", x.lead(0), NONE);
-        x.tape(0, 2, 0);
+        x.tape(0, 0, 0);
         due("none is wrong, one right", x.lead(0), NONE);
+        x.tape(0, 5, 1);
+        due("between 0 and 5", x.lead(0), 15);
+        x.tape(0, 5, 2);
+        x.tape(0, 0, 2);
+        x.tape(0, 2, 0);
         x.tape(0, 6, 1);
         due("between 2 and 6", x.lead(0), 36);
         x.tape(0, 4, 1);
