@@ -8,10 +8,13 @@ import java.nio.file.Path;
 import java.util.Arrays;
 import java.util.HashSet;
 import java.util.List;
+import java.util.Map;
 import java.util.Set;
+import java.util.TreeMap;
 import java.util.TreeSet;
 import java.util.regex.Matcher;
 import java.util.regex.Pattern;
+import java.util.stream.Collectors;
 
 /** The public face, and what of LANGUAGE.md can be read off the compiled class and its source. */
 public final class LanguageTest {
@@ -115,6 +118,7 @@ public final class LanguageTest {
             check.holds("no " + calls.group(), allowed.contains(calls.group(2)));
         }
         methodLengths(source);
+        callDepth(source);
     }
 
     private static void methodLengths(String source) {
@@ -131,5 +135,61 @@ public final class LanguageTest {
             check.holds("line " + i + " is too long", lines[i].length() <= 120);
         }
         check.holds("all methods end", begun < 0 && Arrays.asList(lines).contains("}"));
+    }
+
+    /** Calls that are no recursion go at most eight deep, the public one with them. */
+    private static void callDepth(String source) {
+        Map<String, String> bodies = bodies(source);
+        check.holds("methods are found", bodies.containsKey("WireOfLand.beside") && bodies.containsKey("Boys.goOn"));
+        check.holds("the deepest chain of passesNumber is" + deepest("Text.passesNumber", bodies, ""),
+            deepest("Text.passesNumber", bodies, "").equals(" Text.passesNumber Text.goOn Text.isLetter"));
+        for (String method : bodies.keySet()) {
+            String chain = deepest(method, bodies, "");
+            check.holds("more than eight deep:" + chain, chain.split(" ").length - 1 <= 8);
+        }
+    }
+
+    /** The lines of each method and constructor, by class and name. */
+    private static Map<String, String> bodies(String source) {
+        Map<String, String> bodies = new TreeMap<>();
+        Pattern head = Pattern.compile("(    |        )\\S[^=]*?(\\w+)\\([^)]*\\) \\{");
+        String inside = "WireOfLand";
+        String open = null;
+        for (String line : source.split("\n")) {
+            Matcher nested = Pattern.compile("    private static final class (\\w+) \\{").matcher(line);
+            Matcher method = head.matcher(line);
+            if (nested.matches()) {
+                inside = nested.group(1);
+            } else if (method.matches()) {
+                open = inside + "." + method.group(2);
+                bodies.put(open, "");
+            } else if (open != null) {
+                bodies.put(open, bodies.get(open) + line + "\n");
+            }
+        }
+        return bodies;
+    }
+
+    /** The longest chain of calls that begins with a method; what stands open already is not gone into again. */
+    private static String deepest(String method, Map<String, String> bodies, String ahead) {
+        String longest = "";
+        Matcher calls = Pattern.compile("(?:(\\w+)\\.|new )?\\b(\\w+)\\(").matcher(bodies.get(method));
+        String here = ahead + " " + method;
+        while (calls.find()) {
+            for (String callee : callees(method, calls.group(1), calls.group(2), bodies)) {
+                String chain = (here + " ").contains(" " + callee + " ") ? "" : deepest(callee, bodies, here);
+                longest = chain.split(" ").length > longest.split(" ").length ? chain : longest;
+            }
+        }
+        return " " + method + longest;
+    }
+
+    /** What a name can mean: without an object the own class or the outer one, else any class that has it. */
+    private static List<String> callees(String method, String object, String name, Map<String, String> bodies) {
+        String own = method.split("\\.")[0] + "." + name;
+        if (object == null && bodies.containsKey(own)) {
+            return List.of(own);
+        }
+        return bodies.keySet().stream().filter(other -> other.endsWith("." + name)).collect(Collectors.toList());
     }
 }
